@@ -41,6 +41,8 @@ public final class PromisesTest {
         count();
         image();
         again();
+        againWithAllRows();
+        fullToTheBrim();
         due.close();
     }
 
@@ -123,6 +125,7 @@ public final class PromisesTest {
         SleepingCars x = lineOf(3);
         due.yes("office", x.office(5, 2));
         due.yes("office", x.office(0, 1));
+        due.yes("office back at stop 0", x.office(4, 2) && x.office(4, 0));
         due.no("office 6", x.office(6, 0));
         due.no("office -1", x.office(-1, 0));
         due.no("stop 3", x.office(0, 3));
@@ -606,17 +609,27 @@ public final class PromisesTest {
         due.same("no run", x.told(1, 0), NONE);
         x.share(2, 4);
         x.run(1, 3);
+        due.same("no tickets", x.told(1, 1), 0);
+        x.sell(0, 1, 0, 1);
+        due.same("ticket 0", x.told(1, 1), 1);
+        x.back(0);
+        due.same("nothing sold", x.told(1, 2), 0);
+        due.same("nothing sold", x.told(1, 3), 0);
+        due.same("no linen", x.told(1, 4), 0);
         x.run(2, 10);
         x.sell(0, 1, 0, 2);
         x.sell(0, 1, 1, 4);
         x.sell(4, 1, 1, 2);
         x.sell(0, 1, 2, 3);
-        x.back(0);
+        x.back(1);
         x.sell(0, 2, 0, 4);
         int[] row = {3, 3, 2, 5, 3, 0};
         for (int what = 0; what < row.length; what++) {
             due.same("what " + what, x.told(1, what), row[what]);
         }
+        x.run(3, 2);
+        x.sell(0, 3, 0, 1);
+        due.same("most on the first leg", x.told(3, 2), 1);
         due.same("most of the other run", x.told(2, 2), 1);
         due.same("legs of the other run", x.told(2, 3), 4);
         due.same("what 6", x.told(1, 6), NONE);
@@ -629,7 +642,7 @@ public final class PromisesTest {
         due.same("no berth 3", x.told(1, 13), NONE);
         due.same("office of berth 9", x.told(2, 19), 0);
         due.same("what 20", x.told(2, 20), NONE);
-        due.same("day 3", x.told(3, 0), NONE);
+        due.same("day 4", x.told(4, 0), NONE);
         due.same("day -1", x.told(-1, 0), NONE);
         due.same("day 60", x.told(60, 0), NONE);
         go(x, 23);
@@ -691,6 +704,8 @@ public final class PromisesTest {
         due.same("nothing costs", x.cost(1, 0), 0);
         due.same("all words", Due.contract(x,
             "when stop<1 and km>2 and hour=3 and not sold<4:axle 1;when not night:berth 9999;"), 2);
+        due.same("tests of one before do not count", Due.contract(x, "when km>500:flat 8;") + Due.contract(x, "flat 8;"), 2);
+        due.same("tests of one before do not count", x.cost(1, 0), 8);
         due.same("without blanks", Due.contract(x, "when night:flat1;flat2;when km<0:free0;"), 3);
         due.same("16 lines", Due.contract(x, "flat 1;".repeat(16)), 16);
         due.same("4 tests", Due.contract(x, "when " + "night and ".repeat(3) + "night:free 1;"), 1);
@@ -750,6 +765,11 @@ public final class PromisesTest {
         faultAt("not night:flat 1;", 1, 0);
         faultAt("night:flat 1;", 1, 0);
         faultAt("toll 1; #", 1, 0);
+        faultAt("when km;1:flat 1;", 1, 7);
+        faultAt("when km a 1:flat 1;", 1, 8);
+        faultAt("flat 1<", 1, 6);
+        faultAt("blat 1;", 1, 0);
+        faultAt("flax 1;", 1, 0);
         faultAt("x", 1, 0);
         faultAt("\u00ff", 1, 0);
         SleepingCars x = new SleepingCars();
@@ -972,5 +992,100 @@ public final class PromisesTest {
         due.same("the office", x.post(0, 0), 5);
         due.yes("again 1", x.again(1));
         due.same("now", x.count(4), 2);
+    }
+
+    /** Each row that an image has is another one when it is looked at again. */
+    private static void againWithAllRows() {
+        SleepingCars x = lineOf(3);
+        x.stretch(0, 20, 3);
+        x.stretch(1, 30, 4);
+        x.office(1, 2);
+        x.share(0, 3);
+        x.image(0);
+        x.run(4, 2);
+        x.sell(3, 4, 1, 2);
+        x.letter(1, 3, 4, 0, 1);
+        Due.contract(x, "when stop=1 and not km<9:berth 5;");
+        x.hours(16);
+        x.image(1);
+        due.yes("again 0", x.again(0));
+        due.same("km", x.count(7), 50);
+        due.same("hours", x.count(6), 7);
+        x.line(4);
+        x.share(0, 2);
+        x.share(1, 2);
+        x.run(2, 3);
+        x.sell(2, 2, 0, 2);
+        x.sell(2, 2, 0, 3);
+        x.back(0);
+        x.letter(0, 2, 2, 1, 3);
+        x.letter(0, 2, 2, 1, 3);
+        x.hours(1);
+        Due.contract(x, "when hour>2:flat 6;");
+        due.yes("again 1", x.again(1));
+        int[][] tickets = {{4, 0, 1, 2, 3, 0}, {4, 0, 0, 1, 3, 0}};
+        for (int i = 0; i < tickets.length; i++) {
+            for (int what = 0; what < 6; what++) {
+                due.same("ticket " + i + ", " + what, x.ticket(i, what), tickets[i][what]);
+            }
+        }
+        int[] post = {8, 16, 2, 1};
+        for (int what = 0; what < 4; what++) {
+            due.same("post " + what, x.post(0, what), post[what]);
+        }
+        due.same("km", x.count(7), 50);
+        due.same("hours", x.count(6), 7);
+        due.same("chart", x.told(4, 10), 3);
+        due.same("chart", x.told(4, 11), 0);
+        due.same("share", x.run(5, 2) ? x.told(5, 10) : NONE, 3);
+        due.same("cost", x.cost(4, NONE), 5);
+        due.same("letter", x.letter(1, 0, 5, 0, 2), 1);
+        x.image(2);
+        x.again(0);
+        x.run(1, 1);
+        x.letter(3, 4, 1, 0, 1);
+        x.letter(3, 4, 1, 0, 1);
+        x.again(2);
+        x.hours(16);
+        due.same("the letter comes", x.post(1, 3), 2);
+        due.same("its stretch", 100 * x.ticket(2, 0) + 10 * x.ticket(2, 2) + x.ticket(2, 3), 502);
+        due.same("its office and berth", 10 * x.ticket(2, 4) + x.ticket(2, 1), 1);
+    }
+
+    /** The last day, ten berths, ten stops, 300 tickets, 100 letters, 400 tokens. */
+    private static void fullToTheBrim() {
+        SleepingCars x = lineOf(10);
+        for (int day = 56; day < 60; day++) {
+            due.yes("run", x.run(day, 10));
+        }
+        for (int i = 0; i < 100; i++) {
+            due.same("letter", x.letter(1, 0, 59, i % 9, i % 9 + 1), i);
+        }
+        for (int i = 0; i < 300; i++) {
+            due.same("t", x.sell(0, 59 - i / 90, i % 9, i % 9 + 1), i);
+        }
+        due.same("nothing more", x.sell(0, 56, 8, 9), NONE);
+        due.same("moved", x.moved(59), 0);
+        due.yes("back", x.back(0));
+        due.same("one for it", x.moved(59), 9);
+        due.same("nothing is left of berth 9 there", x.lies(59, 9, 0), NONE);
+        due.same("the last", x.lies(59, 9, 8), 89);
+        due.same("most", x.told(59, 2), 10);
+        due.same("legs", x.told(59, 3), 89);
+        due.same("tickets", x.told(59, 1), 89);
+        due.no("full", x.wouldFit(0, 59, 0, 9) && x.wouldFit(0, 59, 1, 2));
+        due.yes("free", x.wouldFit(0, 59, 0, 1));
+        due.yes("image", x.image(2));
+        due.same("hours", x.hours(100), 100);
+        due.same("no ticket for letters", x.post(99, 3), NONE);
+        due.yes("again", x.again(2));
+        x = new SleepingCars();
+        due.same("fault at once", Due.contract(x, ";".repeat(400)), NONE);
+        due.same("its place", x.fault(1), 0);
+        due.same("400 letters", Due.contract(x, "x".repeat(400)), NONE);
+        due.same("400 digits", Due.contract(x, "flat" + "1".repeat(396)), NONE);
+        due.same("its place", x.fault(1), 4);
+        due.same("50 tests", Due.contract(x, "when " + "km<1and ".repeat(49) + "km"), NONE);
+        due.same("its place", x.fault(1), 399);
     }
 }
