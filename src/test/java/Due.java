@@ -1,11 +1,17 @@
 /** Counts the answers that are not as due; each test of the project ends with close(). */
 final class Due {
     private final String test;
+    private String sentence = "";
     private int right = 0;
     private int wrong = 0;
 
     Due(String test) {
         this.test = test;
+    }
+
+    /** The sentence of the document that is broken if one of the next answers is not as due. */
+    void of(String words) {
+        sentence = " [" + words + "]";
     }
 
     void same(String call, long got, long want) {
@@ -14,7 +20,7 @@ final class Due {
             return;
         }
         wrong++;
-        System.out.println(test + ": " + call + " answered " + got + ", due is " + want);
+        System.out.println(test + sentence + ": " + call + " answered " + got + ", due is " + want);
     }
 
     void yes(String call, boolean got) {
