@@ -899,24 +899,20 @@ public final class SleepingCars {
         }
     }
 
-    /** The tokens of a tape, up to its end or to the first byte that begins none. */
+    /** The tokens of a tape and its end; what is no token stands among them, and goes on no text. */
     private static final class Tokens {
         int size;
         final int[] kinds = new int[MOST_BYTES + 1];
         final int[] numbers = new int[MOST_BYTES + 1];
         final int[] places = new int[MOST_BYTES + 1];
-        private boolean isBroken;
 
         void split(Tape tape) {
             size = 0;
-            isBroken = false;
             int at = 0;
-            while (at < tape.size && !isBroken) {
+            while (at < tape.size) {
                 at += Math.max(1, takeAt(tape, at));
             }
-            if (!isBroken) {
-                add(TAPE_END, 0, tape.size);
-            }
+            add(TAPE_END, 0, tape.size);
         }
 
         int kindAt(int index) {
@@ -938,7 +934,6 @@ public final class SleepingCars {
                 places[size] = place;
                 size++;
             }
-            isBroken = kind == NO_TOKEN;
         }
 
         /** Takes a blank, or the token that begins at a place: how many bytes it has. */

@@ -73,7 +73,7 @@ public final class ContractTest {
     }
 
     private static void eachTokenBehindEachBeginning() {
-        due.of("4: 1 the first byte or token with which no text goes on");
+        due.of("Term 4: 1 the first byte or token with which no text goes on");
         for (String[] row : GOES_ON) {
             List<String> right = List.of(row[1].split(" "));
             boolean mayEnd = right.contains("END");
@@ -104,7 +104,7 @@ public final class ContractTest {
     }
 
     private static void eachByteAtFirst() {
-        due.of("4: blanks (10, 32)");
+        due.of("Term 4: blanks (10, 32)");
         for (int b = 0; b < 256; b++) {
             faultAt((char) b + "", isBlank(b) ? 0 : 1, isBlank(b) ? NONE : 0);
             faultAt((char) b + "flat 1;", isBlank(b) ? 0 : 1, isBlank(b) ? NONE : 0);
@@ -114,7 +114,7 @@ public final class ContractTest {
 
     /** Behind 'flat' a letter makes another word of it, and a digit begins the number. */
     private static void eachByteBetween() {
-        due.of("4: WORDS, rows of letters a .. z");
+        due.of("Term 4: WORDS, rows of letters a .. z");
         for (int b = 0; b < 256; b++) {
             boolean goesOn = isBlank(b) || isDigit(b);
             faultAt("flat" + (char) b + "1;", goesOn ? 0 : 1, goesOn ? NONE : isLetter(b) ? 0 : 4);
@@ -122,7 +122,7 @@ public final class ContractTest {
     }
 
     private static void eachByteBehindDigits() {
-        due.of("4: NUMBERS, 1 to 4 digits; signs one byte each");
+        due.of("Term 4: NUMBERS, 1 to 4 digits; signs one byte each");
         for (int b = 0; b < 256; b++) {
             boolean goesOn = isBlank(b) || isDigit(b);
             faultAt("flat 1" + (char) b + ";", goesOn ? 0 : 1, goesOn ? NONE : b == ';' ? 7 : 6);
@@ -139,7 +139,7 @@ public final class ContractTest {
     }
 
     private static void tokensGoAsLongAsTheyGo() {
-        due.of("4: TOKENS, as long as they go, blanks between");
+        due.of("Term 4: TOKENS, as long as they go, blanks between");
         faultAt("flat1;free2;", 0, NONE);
         faultAt("flatter 1;", 1, 0);
         faultAt("fla 1;", 1, 0);
@@ -156,7 +156,7 @@ public final class ContractTest {
     }
 
     private static void numbersOfDigits() {
-        due.of("4: NUMBERS, 1 to 4 digits (a longer row of digits is no token)");
+        due.of("Term 4: NUMBERS, 1 to 4 digits (a longer row of digits is no token)");
         faultAt("flat ;", 1, 5);
         faultAt("flat 0;", 0, NONE);
         faultAt("flat 9999;", 0, NONE);
@@ -173,7 +173,7 @@ public final class ContractTest {
     }
 
     private static void linesAtMost16() {
-        due.of("4: 3 one too many, at its first token: a 17th LINE");
+        due.of("Term 4: 3 one too many, at its first token: a 17th LINE");
         SleepingCars x = new SleepingCars();
         for (int lines = 0; lines <= 16; lines++) {
             due.same("lines", Due.contract(x, "flat 1;".repeat(lines)), lines);
@@ -194,7 +194,7 @@ public final class ContractTest {
     }
 
     private static void testsAtMost4() {
-        due.of("4: 3 one too many, at its first token: a 5th TEST of a LINE");
+        due.of("Term 4: 3 one too many, at its first token: a 5th TEST of a LINE");
         for (int number = 1; number <= 4; number++) {
             faultAt(tests(number) + ":flat 1;", 0, NONE);
         }
@@ -208,7 +208,7 @@ public final class ContractTest {
     }
 
     private static void faultsInTheirOrder() {
-        due.of("4: 1 .. If there is none: the first of these: 3");
+        due.of("Term 4: 1 .. If there is none: the first of these: 3");
         faultAt("flat 1;".repeat(17) + "flat", 1, 123);
         faultAt("flat 1;".repeat(17) + "#", 1, 119);
         faultAt("flat 1;".repeat(16) + "flat 12345;", 1, 117);
@@ -226,7 +226,7 @@ public final class ContractTest {
     }
 
     private static void placesOfTheEnd() {
-        due.of("4: FAULTS, with their places (a token's first byte; the end's)");
+        due.of("Term 4: FAULTS, with their places (a token's first byte; the end's)");
         faultAt("flat", 1, 4);
         faultAt("flat ", 1, 5);
         faultAt("  flat \n ", 1, 9);
@@ -237,7 +237,7 @@ public final class ContractTest {
     }
 
     private static void fullTapes() {
-        due.of("4: THE TAPE has at most 400 bytes");
+        due.of("Term 4: THE TAPE has at most 400 bytes");
         SleepingCars x = new SleepingCars();
         x.run(1, 1);
         due.same("400 bytes", Due.contract(x, " ".repeat(392) + "flat 37;"), 1);
@@ -254,7 +254,7 @@ public final class ContractTest {
     }
 
     private static void feedsTheHighestByteFirst() {
-        due.of("17: twenty bytes come behind it, of each number the highest first");
+        due.of("Promise 17: twenty bytes come behind it, of each number the highest first");
         SleepingCars x = new SleepingCars();
         x.run(1, 1);
         due.same("feed", x.feed(0x666c6174, 0x31323334, 0x3b66720a, 0x20202020, 0x20202020), 20);
@@ -294,7 +294,7 @@ public final class ContractTest {
     }
 
     private static void testsAtTheirBounds() {
-        due.of("4: TEST: ('stop' | 'km' | 'hour' | 'sold') ('<' | '>' | '=') NUMBER");
+        due.of("Term 4: TEST: ('stop' | 'km' | 'hour' | 'sold') ('<' | '>' | '=') NUMBER");
         holdsOn("stop<2", "11000");
         holdsOn("stop>2", "00011");
         holdsOn("stop=2", "00100");
@@ -314,7 +314,7 @@ public final class ContractTest {
         holdsOn("sold=1", "01010");
         holdsOn("sold=0", "10001");
         holdsOn("sold=2", "00100");
-        due.of("4: TESTS hold together");
+        due.of("Term 4: TESTS hold together");
         SleepingCars x = priced();
         due.same("contract", Due.contract(x, "when stop>0 and km<50 and not hour=6 and sold<2:flat 1;"), 1);
         for (int stop = 0; stop < 5; stop++) {
@@ -333,7 +333,7 @@ public final class ContractTest {
     }
 
     private static void nightBeginsAndEnds() {
-        due.of("4: night: that is 22 or more, or below 6");
+        due.of("Term 4: night: that is 22 or more, or below 6");
         for (int hour = 1; hour <= 24; hour++) {
             boolean night = hour >= 22 || hour < 6;
             due.same("night at " + hour, costAtHour("night", hour), night ? 1 : 0);
@@ -342,7 +342,7 @@ public final class ContractTest {
     }
 
     private static void hoursOfTheDay() {
-        due.of("4: hour: of the day, 0 .. 23, in which it begins");
+        due.of("Term 4: hour: of the day, 0 .. 23, in which it begins");
         for (int hour = 1; hour <= 24; hour++) {
             due.same("hour at " + hour, costAtHour("hour=" + hour % 24, hour), 1);
         }
@@ -373,7 +373,7 @@ public final class ContractTest {
     }
 
     private static void chargesByTheirNumbers() {
-        due.of("4: axle: NUMBER times 4 times KM; berth: NUMBER times sold; flat: NUMBER; free: less NUMBER");
+        due.of("Term 4: axle: NUMBER times 4 times KM; berth: NUMBER times sold; flat: NUMBER; free: less NUMBER");
         due.same("axle 0", costOf("axle 0;", 500, 10), 0);
         due.same("axle 1", costOf("axle 1;", 1, 10), 4);
         due.same("axle 9999", costOf("axle 9999;", 500, 10), 19998000);
@@ -382,14 +382,14 @@ public final class ContractTest {
         due.same("berth 9999 of ten", costOf("berth 9999;", 500, 10), 99990);
         due.same("flat 0", costOf("flat 0;", 500, 10), 0);
         due.same("flat 9999", costOf("flat 9999;", 500, 10), 9999);
-        due.of("4: a stretch may cost less than nothing");
+        due.of("Term 4: a stretch may cost less than nothing");
         due.same("free 0", costOf("free 0;", 500, 10), 0);
         due.same("free 1", costOf("free 1;", 500, 10), -1);
         due.same("free 9999", costOf("free 9999;", 500, 10), -9999);
     }
 
     private static void allLinesThatHold() {
-        due.of("4: all LINES whose TESTS hold together");
+        due.of("Term 4: all LINES whose TESTS hold together");
         SleepingCars x = priced();
         due.same("contract", Due.contract(x, "flat 100;free 30;when sold>0:berth 7;when stop=1:axle 2;when night:flat 5;"), 5);
         long[] legs = {75, 70 + 7 + 160 + 5, 70 + 14, 70 + 7, 75};

@@ -26,6 +26,8 @@ public final class LanguageTest {
         noWordIsForbidden(code);
         parametersAreFew();
         noNameIsUsedTwice();
+        staticFieldsAreFinal();
+        methodsAreShort(code);
         due.close();
     }
 
@@ -119,5 +121,27 @@ public final class LanguageTest {
         }
         others.retainAll(face);
         due.same("names that are used twice " + others, others.size(), 0);
+    }
+
+    private static void staticFieldsAreFinal() {
+        List<Class<?>> all = new ArrayList<>(List.of(SleepingCars.class.getDeclaredClasses()));
+        all.add(SleepingCars.class);
+        for (Class<?> one : all) {
+            for (Field field : one.getDeclaredFields()) {
+                int kind = field.getModifiers();
+                boolean isConstant = Modifier.isFinal(kind) && field.getType() == int.class;
+                due.yes("static field " + field, !Modifier.isStatic(kind) || isConstant);
+            }
+        }
+    }
+
+    private static void methodsAreShort(String code) {
+        Matcher m = Pattern.compile("(?m)^( +)[\\w\\[\\] ]+\\([\\w\\[\\], ]*\\) \\{\n(?s:.*?)\n\\1\\}$").matcher(code);
+        int methods = 0;
+        while (m.find()) {
+            methods++;
+            due.yes("lines of " + m.group().strip().split("\n")[0], m.group().split("\n").length <= 60);
+        }
+        due.yes("methods are found", methods > 80);
     }
 }

@@ -50,7 +50,7 @@ final class Scene {
         return x;
     }
 
-    /** All that can be seen of an object; it is another one then, and some 230 calls older. */
+    /** All that can be seen of an object; it is another one then, and some 290 calls older. */
     static List<Long> looks(SleepingCars x) {
         List<Long> seen = new ArrayList<>();
         seen.add((long) x.fault(0));
@@ -117,8 +117,9 @@ final class Scene {
             seen.add(x.cost(20, stop));
         }
         seen.add((long) x.cars(0x3fffffff, 10));
+        // The letters that were under way are dealt with then.
         seen.add((long) x.hours(60));
-        seen.add((long) x.count(2));
+        lookAtTickets(x, seen);
     }
 
     /** With another number behind it 'flat' is a line, and nothing else that may be there. */

@@ -6,6 +6,7 @@ public final class TermsTest {
     public static void main(String[] args) {
         atFirst();
         sharesOfLaterRuns();
+        anotherLine();
         notOverEachOther();
         ticketsAreNumbered();
         gapBetweenTickets();
@@ -29,6 +30,7 @@ public final class TermsTest {
         movedOnlyOthers();
         fitsAsManyAsBerths();
         fitsWithinCharts();
+        mostSoldOnAStretch();
         carsThatAreBackInTime();
         carsOfSets();
         due.close();
@@ -47,13 +49,13 @@ public final class TermsTest {
     }
 
     private static void atFirst() {
-        due.of("1: OFFICES 0 .. 5 are at a STOP each (all at STOP 0 at first)");
+        due.of("Term 1: OFFICES 0 .. 5 are at a STOP each (all at STOP 0 at first)");
         SleepingCars x = lineOf(3);
         x.run(1, 10);
         for (int office = 1; office < 6; office++) {
             due.same("way from 0 to " + office, x.post(x.letter(0, office, 1, 0, 1), 0), 1);
         }
-        due.of("1: the OFFICE that SHARES tell for b (0 at first)");
+        due.of("Term 1: the OFFICE that SHARES tell for b (0 at first)");
         for (int berth = 0; berth < 10; berth++) {
             due.same("office of berth " + berth, x.told(1, 10 + berth), 0);
         }
@@ -71,7 +73,7 @@ public final class TermsTest {
     }
 
     private static void sharesOfLaterRuns() {
-        due.of("1: BERTH b of RUNS that are told from now on");
+        due.of("Term 1: BERTH b of RUNS that are told from now on");
         SleepingCars x = lineOf(3);
         x.run(1, 2);
         due.yes("share", x.share(0, 3));
@@ -83,14 +85,32 @@ public final class TermsTest {
         due.same("3 sells on day 1", x.sell(3, 1, 0, 1), NONE);
         due.same("3 sells on day 2", x.sell(3, 2, 0, 1), 0);
         due.same("3 sells on day 3", x.sell(3, 3, 0, 1), NONE);
-        due.of("1: a berth that a run has not, told for a later one");
+        due.of("Term 1: a berth that a run has not, told for a later one");
         due.yes("share", x.share(9, 4));
         due.same("berth 9 of 10", x.run(4, 10) ? x.told(4, 19) : NONE, 4);
     }
 
+    private static void anotherLine() {
+        due.of("Promise 2: another LINE, (OFFICES are at STOP 0 then): nothing else is another one");
+        SleepingCars x = lineOf(5);
+        x.stretch(3, 70, 8);
+        x.office(3, 4);
+        x.share(2, 3);
+        x.hours(4);
+        Due.contract(x, "flat 1;");
+        due.yes("line", x.line(5));
+        int[] counts = {5, 0, 0, 0, 4, 1, 4, 4};
+        for (int what = 0; what < counts.length; what++) {
+            due.same("count " + what, x.count(what), counts[what]);
+        }
+        due.yes("run", x.run(1, 3));
+        due.same("the share", x.told(1, 12), 3);
+        due.same("the office", x.post(x.letter(0, 3, 1, 0, 1), 0), 5);
+    }
+
     /** One berth, a ticket from 2 to 4 of stops 0 to 6. */
     private static void notOverEachOther() {
-        due.of("1: none of one BERTH lie over each other (one may end where the other one begins)");
+        due.of("Term 1: none of one BERTH lie over each other (one may end where the other one begins)");
         for (int from = 0; from < 6; from++) {
             for (int to = from + 1; to < 7; to++) {
                 SleepingCars x = lineOf(7);
@@ -104,7 +124,7 @@ public final class TermsTest {
     }
 
     private static void ticketsAreNumbered() {
-        due.of("1: TICKETS are numbered from 0 on, 300 at most, in the order in which they were sold");
+        due.of("Term 1: TICKETS are numbered from 0 on, 300 at most, in the order in which they were sold");
         SleepingCars x = lineOf(10);
         for (int day = 4; day >= 1; day--) {
             x.run(day, 10);
@@ -114,7 +134,7 @@ public final class TermsTest {
         }
         due.same("a letter for the 300th", x.letter(0, 1, 1, 0, 1), 0);
         due.same("the 300th", x.sell(0, 1, 0, 1), 299);
-        due.of("7: 300 were sold; 9: as sell()");
+        due.of("Promise 7: 300 were sold; Promise 9: as sell()");
         due.same("the 301st", x.sell(0, 1, 0, 1), NONE);
         due.same("a letter for the 301st", x.letter(0, 1, 1, 0, 1), NONE);
         due.yes("back", x.back(299));
@@ -151,7 +171,7 @@ public final class TermsTest {
     }
 
     private static void gapBetweenTickets() {
-        due.of("1: GAP: from the end of the TICKET ahead of it up to the beginning of the one behind it; the least GAP");
+        due.of("Term 1: GAP: from the end of the TICKET ahead of it up to the beginning of the one behind it; the least GAP");
         due.same("gaps 4 and 3", berthOfGaps(new int[] {2, 6}, new int[] {3, 6}), 1);
         due.same("gaps 4 and 3", berthOfGaps(new int[] {3, 7}, new int[] {3, 6}), 1);
         due.same("gaps 3 and 4", berthOfGaps(new int[] {3, 6}, new int[] {2, 6}), 0);
@@ -161,7 +181,7 @@ public final class TermsTest {
     }
 
     private static void gapUpToTheEnds() {
-        due.of("1: GAP: (or STOP 0) .. (or the last STOP)");
+        due.of("Term 1: GAP: (or STOP 0) .. (or the last STOP)");
         due.same("0 to 5 and 1 to 5", berthOfGaps(new int[] {0, 5}, new int[] {1, 5}), 1);
         due.same("0 to 5 and 4 to 9", berthOfGaps(new int[] {0, 5}, new int[] {4, 9}), 0);
         due.same("0 to 6 and 4 to 9", berthOfGaps(new int[] {0, 6}, new int[] {4, 9}), 1);
@@ -172,7 +192,7 @@ public final class TermsTest {
     }
 
     private static void gapOfSeveral() {
-        due.of("1: of several the least BERTH");
+        due.of("Term 1: of several the least BERTH");
         due.same("the same gaps", berthOfGaps(new int[] {2, 6}, new int[] {2, 6}), 0);
         due.same("as wide", berthOfGaps(new int[] {4, 7}, new int[] {3, 6}), 0);
         due.same("as wide", berthOfGaps(new int[] {0, 5}, new int[] {4, 9}), 0);
@@ -180,7 +200,7 @@ public final class TermsTest {
     }
 
     private static void gapWithoutTicketsGivenBack() {
-        due.of("1: GAP, of a ticket that was given back");
+        due.of("Term 1: GAP, of a ticket that was given back");
         SleepingCars x = lineOf(5);
         x.run(1, 2);
         due.same("berth 0", x.ticket(x.sell(0, 1, 0, 3), 1), 0);
@@ -192,7 +212,7 @@ public final class TermsTest {
     }
 
     private static void chartsUpToThe12thHour() {
-        due.of("1: from the 12th hour ahead of that in which a RUN leaves all its BERTHS are on all CHARTS");
+        due.of("Term 1: from the 12th hour ahead of that in which a RUN leaves all its BERTHS are on all CHARTS");
         for (int hour : new int[] {0, 35, 36, 37, 47}) {
             SleepingCars x = lineOf(3);
             x.share(1, 4);
@@ -207,7 +227,7 @@ public final class TermsTest {
     }
 
     private static void chartsOfOtherRuns() {
-        due.of("1: .. ahead of that in which A RUN leaves: another one's charts stay");
+        due.of("Term 1: .. ahead of that in which A RUN leaves: another one's charts stay");
         SleepingCars x = lineOf(3);
         x.run(2, 1);
         x.run(3, 1);
@@ -221,7 +241,7 @@ public final class TermsTest {
     }
 
     private static void soldFartherOn() {
-        due.of("1: the RUN leaves the STOP where the stretch begins");
+        due.of("Term 1: the RUN leaves the STOP where the stretch begins");
         SleepingCars x = lineOf(4);
         x.stretch(0, 1, 24);
         x.stretch(1, 1, 2);
@@ -244,7 +264,7 @@ public final class TermsTest {
     }
 
     private static void lettersGoAsLong() {
-        due.of("2: it comes 1 hour, and as many as there are between their two STOPS, later; the answer as many hours later");
+        due.of("Term 2: it comes 1 hour, and as many as there are between their two STOPS, later; the answer as many hours later");
         int[] at = {0, 1, 2, 3, 3, 1};
         int[] hours = {0, 24, 26, 33};
         SleepingCars x = lineOf(4);
@@ -269,7 +289,7 @@ public final class TermsTest {
     }
 
     private static void lettersStandAs() {
-        due.of("10: 0 under way, 1 dealt with, 2 the answer is there; -2 if it is not answered yet");
+        due.of("Promise 10: 0 under way, 1 dealt with, 2 the answer is there; -2 if it is not answered yet");
         SleepingCars x = lineOf(3);
         x.stretch(0, 1, 3);
         x.office(1, 1);
@@ -288,7 +308,7 @@ public final class TermsTest {
     }
 
     private static void lettersAreAtMost100() {
-        due.of("2: at most 100 LETTERS, from 0 on; 9: or there were 100");
+        due.of("Term 2: at most 100 LETTERS, from 0 on; Promise 9: or there were 100");
         SleepingCars x = lineOf(3);
         x.run(1, 1);
         for (int i = 0; i < 99; i++) {
@@ -305,7 +325,7 @@ public final class TermsTest {
     }
 
     private static void lettersHourByHour() {
-        due.of("2: HOUR by HOUR");
+        due.of("Term 2: HOUR by HOUR");
         for (int step : new int[] {1, 3, 6}) {
             SleepingCars x = lineOf(3);
             x.stretch(0, 1, 4);
@@ -322,7 +342,7 @@ public final class TermsTest {
     }
 
     private static void lettersByNumbers() {
-        due.of("2: those LETTERS that come then are dealt with by numbers");
+        due.of("Term 2: those LETTERS that come then are dealt with by numbers");
         SleepingCars x = lineOf(3);
         x.stretch(0, 1, 4);
         x.office(1, 1);
@@ -353,10 +373,10 @@ public final class TermsTest {
     }
 
     private static void lettersComeInTime() {
-        due.of("2: the other OFFICE SELLS then if it can: all CHARTS from the 12th hour ahead on");
+        due.of("Term 2: the other OFFICE SELLS then if it can: all CHARTS from the 12th hour ahead on");
         due.same("comes at 35", soldByLetterAt(35, 0), NONE);
         due.same("comes at 36", soldByLetterAt(36, 0), 0);
-        due.of("2: the other OFFICE SELLS then if it can: not from the hour on in which the RUN leaves");
+        due.of("Term 2: the other OFFICE SELLS then if it can: not from the hour on in which the RUN leaves");
         due.same("comes at 47", soldByLetterAt(47, 0), 0);
         due.same("comes at 48", soldByLetterAt(48, 0), NONE);
         due.same("comes at 53, farther on", soldByLetterAt(53, 1), 0);
@@ -364,7 +384,7 @@ public final class TermsTest {
     }
 
     private static void lettersFindWhatIsFree() {
-        due.of("2: the other OFFICE SELLS then if it can: what is free as the letter comes");
+        due.of("Term 2: the other OFFICE SELLS then if it can: what is free as the letter comes");
         SleepingCars x = lineOf(3);
         x.run(2, 1);
         due.same("ticket", x.sell(0, 2, 0, 2), 0);
@@ -379,7 +399,7 @@ public final class TermsTest {
     }
 
     private static void lettersBehindTheLastHour() {
-        due.of("1: HOURS are numbered from 0 on, to 2000: a letter that would come later");
+        due.of("Term 1: HOURS are numbered from 0 on, to 2000: a letter that would come later");
         SleepingCars x = lineOf(3);
         x.run(59, 1);
         go(x, 1998);
@@ -398,7 +418,7 @@ public final class TermsTest {
     }
 
     private static void lettersWith300Tickets() {
-        due.of("2: the other OFFICE SELLS then if it can: 300 TICKETS at most");
+        due.of("Term 2: the other OFFICE SELLS then if it can: 300 TICKETS at most");
         SleepingCars x = lineOf(10);
         for (int day = 1; day <= 4; day++) {
             x.run(day, 10);
@@ -422,7 +442,7 @@ public final class TermsTest {
     }
 
     private static void movedByBeginningsAndNumbers() {
-        due.of("3: by where they begin, then by numbers, each in the first BERTH of that CHART (by numbers) that is free for it");
+        due.of("Term 3: by where they begin, then by numbers, each in the first BERTH of that CHART (by numbers) that is free for it");
         SleepingCars x = lineOf(6);
         x.run(1, 4);
         x.sell(0, 1, 0, 1);
@@ -446,7 +466,7 @@ public final class TermsTest {
     }
 
     private static void movedWithinCharts() {
-        due.of("3: in other BERTHS of the same OFFICE's CHART");
+        due.of("Term 3: in other BERTHS of the same OFFICE's CHART");
         SleepingCars x = lineOf(3);
         x.share(0, 5);
         x.share(2, 5);
@@ -469,7 +489,7 @@ public final class TermsTest {
     }
 
     private static void movedOnlyOthers() {
-        due.of("12: how many lie in another BERTH then");
+        due.of("Promise 12: how many lie in another BERTH then");
         SleepingCars x = lineOf(4);
         x.run(1, 3);
         x.run(2, 3);
@@ -492,7 +512,7 @@ public final class TermsTest {
     }
 
     private static void fitsAsManyAsBerths() {
-        due.of("3: WOULD FIT: as many lie over one another at most as had BERTHS");
+        due.of("Term 3: WOULD FIT: as many lie over one another at most as had BERTHS");
         for (int berths = 1; berths <= 10; berths++) {
             SleepingCars x = lineOf(5);
             x.run(1, berths);
@@ -509,7 +529,7 @@ public final class TermsTest {
             due.yes("back", x.back(berths - 1));
             due.yes("all along, one less", x.wouldFit(0, 1, 0, 4));
         }
-        due.of("13: also where it is free as it is; 3: if its TICKETS were MOVED");
+        due.of("Promise 13: also where it is free as it is; Term 3: if its TICKETS were MOVED");
         SleepingCars x = lineOf(4);
         x.run(1, 2);
         x.sell(0, 1, 0, 2);
@@ -524,7 +544,7 @@ public final class TermsTest {
     }
 
     private static void fitsWithinCharts() {
-        due.of("3: WOULD FIT: could be sold by AN OFFICE if its TICKETS were MOVED");
+        due.of("Term 3: WOULD FIT: could be sold by AN OFFICE if its TICKETS were MOVED");
         for (int hour : new int[] {0, 35, 36, 47}) {
             SleepingCars x = lineOf(3);
             x.share(1, 4);
@@ -537,6 +557,34 @@ public final class TermsTest {
             due.yes("office 4 behind its ticket at " + hour, x.wouldFit(4, 2, 1, 2));
             due.same("office 3 at " + hour, x.wouldFit(3, 2, 1, 2) ? 1 : 0, late ? 1 : 0);
         }
+    }
+
+    private static void mostSoldOnAStretch() {
+        due.of("Promise 16: the most BERTHS that are sold on a stretch; stretches sold, each BERTH's, between neighbours");
+        for (int stop = 0; stop < 4; stop++) {
+            SleepingCars x = lineOf(5);
+            x.run(1, 3);
+            due.same("most of none", x.told(1, 2), 0);
+            due.same("stretches of none", x.told(1, 3), 0);
+            for (int i = 1; i <= 3; i++) {
+                x.sell(0, 1, stop, stop + 1);
+                due.same("most on the stretch from " + stop, x.told(1, 2), i);
+                due.same("stretches", x.told(1, 3), i);
+            }
+            due.yes("back", x.back(1));
+            due.same("most on the stretch from " + stop, x.told(1, 2), 2);
+            due.same("stretches", x.told(1, 3), 2);
+            due.same("all along", x.sell(0, 1, 0, 4), 3);
+            due.same("most on the stretch from " + stop, x.told(1, 2), 3);
+            due.same("stretches", x.told(1, 3), 6);
+        }
+        SleepingCars x = lineOf(3);
+        x.run(1, 2);
+        x.sell(0, 1, 0, 1);
+        x.sell(0, 1, 1, 2);
+        due.same("one behind the other one", x.told(1, 2), 1);
+        due.same("tickets", x.told(1, 1), 2);
+        due.same("linen", x.told(1, 4), 2);
     }
 
     /** Hours from stop 0 to the last one, and rest: twice their sum is how long a car is away. */
@@ -553,7 +601,7 @@ public final class TermsTest {
     }
 
     private static void carsThatAreBackInTime() {
-        due.of("5: back at STOP 0 it can leave again REST hours later");
+        due.of("Term 5: back at STOP 0 it can leave again REST hours later");
         due.same("24 hours away", carsOfTwoDays(12, 0, 1), 1);
         due.same("26 hours away", carsOfTwoDays(13, 0, 1), 2);
         due.same("26 hours away, two days", carsOfTwoDays(13, 0, 2), 1);
@@ -570,7 +618,7 @@ public final class TermsTest {
     }
 
     private static void carsOfSets() {
-        due.of("5: CARS of a set of days: the fewest with which a RUN can leave on each of them");
+        due.of("Term 5: CARS of a set of days: the fewest with which a RUN can leave on each of them");
         SleepingCars x = lineOf(10);
         x.stretch(0, 1, 24);
         due.same("hours", x.count(6), 32);
