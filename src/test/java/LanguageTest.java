@@ -28,6 +28,7 @@ public final class LanguageTest {
         noNameIsUsedTwice();
         staticFieldsAreFinal();
         methodsAreShort(code);
+        objectsAreMadeOnce(code);
         due.close();
     }
 
@@ -143,5 +144,18 @@ public final class LanguageTest {
             due.yes("lines of " + m.group().strip().split("\n")[0], m.group().split("\n").length <= 60);
         }
         due.yes("methods are found", methods > 80);
+    }
+
+    /** All calls of a run share one room, so objects are made with an object, or at its first image k. */
+    private static void objectsAreMadeOnce(String code) {
+        int made = 0;
+        for (String row : code.split("\n")) {
+            if (row.contains("new ")) {
+                made++;
+                boolean isField = row.strip().matches("(private )?final .* = new .*;");
+                due.yes("made once: " + row.strip(), isField || row.strip().equals("images[k] = new Book();"));
+            }
+        }
+        due.yes("objects are found", made > 30);
     }
 }
